@@ -57,13 +57,10 @@ public final class PatienceDeskAgainstModel {
         Random random = new Random(seed);
         PatienceDesk desk = new PatienceDesk();
         Model model = new Model();
-        Call begin = Call.begin(random);
-        Call make = Call.of("make", random.nextInt());
-        List<Call> calls = new ArrayList<>(List.of(begin, make));
-        for (Call call : calls) {
-            call.on(desk);
-            call.on(model);
-        }
+        List<Call> table = new ArrayList<>(List.of(Call.begin(random)));
+        boolean agreed = agree("table", table, desk, model);
+        table.addAll(random.nextBoolean() ? List.of(Call.of("make", random.nextInt())) : rows(random, model));
+        agreed &= agree("cards", table.subList(1, table.size()), desk, model);
         for (int i = random.nextInt(70); i > 0; i--) {
             int[] known = model.someMove(random);
             if (known == null || known[1] == 5 && random.nextInt(3) != 0) {
@@ -81,8 +78,21 @@ public final class PatienceDeskAgainstModel {
                 }
             }
         }
-        String deal = "deal " + seed + ", " + begin + ", " + make;
-        return agree(deal, carries, desk, model) && agree(deal, questions(model), desk, model);
+        String deal = "deal " + seed + ", " + table;
+        return agreed && agree(deal, carries, desk, model) && agree(deal, questions(model), desk, model);
+    }
+
+    /** From the greatest rank on, into few columns, so that there are rows to be carried. */
+    private static List<Call> rows(Random random, Model model) {
+        List<Call> lays = new ArrayList<>();
+        int used = 1 + random.nextInt(model.columns);
+        for (int rank = model.ranks; rank > 0; rank--) {
+            int turn = random.nextInt(model.suits);
+            for (int suit = 0; suit < model.suits; suit++) {
+                lays.add(Call.of("lay", random.nextInt(used), (suit + turn) % model.suits, rank));
+            }
+        }
+        return lays;
     }
 
     private static List<Call> questions(Model model) {

@@ -323,7 +323,10 @@ public final class PatienceDeskPromises {
         due("plain: one auto is kept", plain.count(7), 2);
         PatienceDesk waits = laid(table(2, 2, 2, 0, 0), codes(2, 1), codes(9, 10));
         due("plain: the rank 2 waits for both rank 1", waits.auto(), 1);
+        due("plain: an auto by which one went is kept", waits.count(7), 1);
         due("plain: it could go", waits.move(0, 5), 1);
+        PatienceDesk third = laid(table(3, 2, 3, 0, 0), codes(2, 1), codes(17, 18), codes(10, 9));
+        due("plain: it waits for a suit of its own turn, too", third.auto(), 2);
         PatienceDesk suited = laid(table(2, 2, 2, 0, 1), codes(2, 1), codes(9, 10));
         due("suited: always", suited.auto(), 2);
         PatienceDesk round = laid(table(2, 2, 2, 0, 3), codes(2, 1), codes(9, 10));
@@ -383,8 +386,14 @@ public final class PatienceDeskPromises {
         due("a refused lay leaves it", x.count(7), 1);
         x.make(5);
         due("make leaves none", x.undo(), NONE);
-        x.move(x.card(0, 0) > 0 ? 0 : x.card(1, 0) > 0 ? 1 : 2, 4);
+        int column = x.card(0, 0) > 0 ? 0 : x.card(1, 0) > 0 ? 1 : 2;
+        int last = x.card(column, 2) > 0 ? x.card(column, 2) : x.card(column, 1) > 0 ? x.card(column, 1) : x.card(column, 0);
+        x.move(column, 4);
         due("kept", x.count(7), 1);
+        due("the cell", x.cell(0), last);
+        x.undo();
+        due("back from the cell", x.cell(0) + x.count(2), 0);
+        x.redo();
         x.begin(1, 3, 3, 2, 0);
         due("begin leaves none", x.undo(), NONE);
     }
@@ -417,6 +426,13 @@ public final class PatienceDeskPromises {
         x.undo();
         x.move(0, 2);
         due("another was done since", x.redo(), NONE);
+        x.move(0, 1);
+        x.move(1, 0);
+        x.undo();
+        x.undo();
+        x.move(0, 1);
+        due("another was done since two were undone", x.redo(), NONE);
+        x.undo();
         for (int i = 0; i < 70; i++) {
             x.move(2 - 2 * (i % 2), 2 * (i % 2));
         }
@@ -536,6 +552,9 @@ public final class PatienceDeskPromises {
         PatienceDesk cells = laid(table(1, 3, 1, 2, 0), codes(1, 3, 2));
         due("with cells: R(4) is 7", cells.solve(7), 5);
         due("one too few", cells.solve(6), SPENT);
+        PatienceDesk place = laid(table(1, 3, 1, 2, 2), codes(2, 3, 1));
+        due("which cell has which card does not matter: R(3) is 7", place.solve(7), 4);
+        due("one too few", place.solve(6), SPENT);
         PatienceDesk none = laid(table(2, 2, 2, 0, 1), codes(1, 2), codes(9, 10));
         due("none can move", none.solve(1), NONE);
         PatienceDesk round = laid(table(1, 3, 2, 0, 3), codes(2, 1, 3));
