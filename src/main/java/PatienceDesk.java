@@ -1021,18 +1021,12 @@ public final class PatienceDesk {
         private boolean leadsToEnd(int index) {
             work.unpack(columns[index], cells[index] & 255);
             for (int from = 0; from < PLACES; from++) {
-                if (work.cardFrom(from) != 0 && leadsToEndFrom(index, from)) {
-                    return true;
-                }
-            }
-            return false;
-        }
-
-        private boolean leadsToEndFrom(int index, int from) {
-            for (int to = 0; to < PLACES; to++) {
-                boolean canBe = work.isNamed(from, to) && work.whyNot(from, to) == 0;
-                if (canBe && endsBy(index, from, to)) {
-                    return true;
+                boolean hasCard = work.cardFrom(from) != 0;
+                for (int to = 0; hasCard && to < PLACES; to++) {
+                    boolean canBe = work.isNamed(from, to) && work.whyNot(from, to) == 0;
+                    if (canBe && endsBy(index, from, to)) {
+                        return true;
+                    }
                 }
             }
             return false;
