@@ -41,8 +41,9 @@ public final class PatienceDesk {
     private final History history = new History();
     private final Tray[] trays = new Tray[TRAYS];
     private final short[] formRow = new short[MOST_COLUMNS + MOST_CARDS + MOST_CELLS];
-    private Search search;
-    private byte[] planMoves = new byte[CODES];
+    private final Search search = new Search(deck);
+    /** A plan's forms are all met within the bound, so it is no longer than that. */
+    private final byte[] planMoves = new byte[MOST_BOUND];
     private int planSize;
     private int laidCards;
     private int latestWhy;
@@ -210,10 +211,11 @@ public final class PatienceDesk {
         if (!allLaid()) {
             return NOT_READY;
         }
-        Search rows = searchRows();
-        int answer = rows.fewestMoves(stand, deck.cells, bound);
+        int answer = search.fewestMoves(stand, deck.cells, bound);
         if (answer >= 0) {
-            rememberPlan(rows, answer);
+            // copied out, since needs() uses the search's rows again and must not change the plan
+            search.writePlan(planMoves, answer);
+            planSize = answer;
         }
         return answer;
     }
@@ -235,9 +237,8 @@ public final class PatienceDesk {
         if (!allLaid() || stand.packedCells() != 0) {
             return NOT_READY;
         }
-        Search rows = searchRows();
         for (int cells = 0; cells <= MOST_CELLS; cells++) {
-            int answer = rows.fewestMoves(stand, cells, bound);
+            int answer = search.fewestMoves(stand, cells, bound);
             if (answer != NONE) {
                 return answer == SPENT ? SPENT : cells;
             }
@@ -304,23 +305,6 @@ public final class PatienceDesk {
         laidCards = 0;
         latestWhy = 0;
         planSize = 0;
-    }
-
-    /** The search's rows are large, so a desk that never asks for a solution has none. */
-    private Search searchRows() {
-        if (search == null) {
-            search = new Search(deck);
-        }
-        return search;
-    }
-
-    /** A plan is copied out, since needs() uses the search's rows again and must not change it. */
-    private void rememberPlan(Search rows, int moves) {
-        if (planMoves.length < moves) {
-            planMoves = new byte[moves];
-        }
-        rows.writePlan(planMoves, moves);
-        planSize = moves;
     }
 
     private void fill(Tray tray, int what, int column) {
