@@ -4,7 +4,7 @@ import java.util.Arrays;
  * A desk for patiences in which all cards lie open.
  *
  * <p>Inside, a card is a number 1 .. 12 that rises with its code, so that a column fits into one
- * long, four bits a card, and a whole stand into a long and an int.
+ * long, four bits a card, and so does the form of a stand.
  */
 public final class PatienceDesk {
     public static final int NONE = -1, BAD = -2, STATE = -3;
@@ -42,9 +42,7 @@ public final class PatienceDesk {
     private final Tray[] trays = new Tray[TRAYS];
     private final short[] formRow = new short[MOST_COLUMNS + MOST_CARDS + MOST_CELLS];
     private final Search search = new Search(deck);
-    /** A plan's forms are all met within the bound, so it is no longer than that. */
-    private final byte[] planMoves = new byte[MOST_BOUND];
-    private int planSize;
+    private final Plan latestPlan = new Plan();
     private int laidCards;
     private int latestWhy;
     private int latestStatus;
@@ -214,8 +212,7 @@ public final class PatienceDesk {
         int answer = search.fewestMoves(stand, deck.cells, bound);
         if (answer >= 0) {
             // copied out, since needs() uses the search's rows again and must not change the plan
-            search.writePlan(planMoves, answer);
-            planSize = answer;
+            search.writePlan(latestPlan, answer);
         }
         return answer;
     }
@@ -224,17 +221,17 @@ public final class PatienceDesk {
         if (!isWithin(what, 0, 1)) {
             return BAD;
         }
-        if (!isWithin(i, 0, planSize - 1)) {
+        if (!isWithin(i, 0, latestPlan.size - 1)) {
             return NONE;
         }
-        return what == 0 ? Search.fromOf(planMoves[i]) : Search.toOf(planMoves[i]);
+        return what == 0 ? latestPlan.fromAt(i) : latestPlan.toAt(i);
     }
 
     public int needs(int bound) {
         if (!isWithin(bound, 1, MOST_BOUND)) {
             return BAD;
         }
-        if (!allLaid() || stand.packedCells() != 0) {
+        if (!allLaid() || stand.freeCells() < deck.cells) {
             return NOT_READY;
         }
         for (int cells = 0; cells <= MOST_CELLS; cells++) {
@@ -304,7 +301,7 @@ public final class PatienceDesk {
         history.restart(stand);
         laidCards = 0;
         latestWhy = 0;
-        planSize = 0;
+        latestPlan.size = 0;
     }
 
     private void fill(Tray tray, int what, int column) {
@@ -315,7 +312,7 @@ public final class PatienceDesk {
                 tray.law = deck.law;
                 break;
             case HOLDS_COLUMN:
-                tray.size = stand.writeColumn(column, tray.numbers);
+                tray.size = stand.writeColumn(column, tray.numbers, 0);
                 break;
             case HOLDS_FORM:
                 tray.size = stand.writeForm(tray.numbers);
@@ -487,7 +484,8 @@ public final class PatienceDesk {
 
     /** What lies where. */
     private static final class Stand {
-        private static final int SIZE_SHIFT = 4 * MOST_CARDS;
+        private static final int COLUMN_BITS = 4 * MOST_CARDS, NAME_BITS = 2, NAME = 3;
+        private static final int CELLS_TURNED_SHIFT = NAME_BITS * MOST_COLUMNS;
 
         private final Deck deck;
         /** Four bits a card, the last card of the column lowest. */
@@ -495,6 +493,7 @@ public final class PatienceDesk {
         private final int[] sizes = new int[MOST_COLUMNS];
         private final int[] cells = new int[MOST_CELLS];
         private final int[] houses = new int[MOST_SUITS];
+        /** The columns in the order of the form; the last bits of each are the column's name. */
         private final long[] order = new long[MOST_COLUMNS];
         /** Not the deck's, since needs() asks what would be with more cells or fewer. */
         private int cellCount;
@@ -747,11 +746,11 @@ public final class PatienceDesk {
             return true;
         }
 
-        private int writeColumn(int column, short[] row) {
-            for (int i = 0; i < sizes[column] && i < row.length; i++) {
-                row[i] = (short) deck.codeOf(cardAt(column, i));
+        private int writeColumn(int column, short[] row, int start) {
+            for (int i = 0; i < sizes[column] && start + i < row.length; i++) {
+                row[start + i] = (short) deck.codeOf(cardAt(column, i));
             }
-            return sizes[column];
+            return start + sizes[column];
         }
 
         /** The row has a place for each code: 8 times a suit below 4, and a rank below 7. */
@@ -765,101 +764,84 @@ public final class PatienceDesk {
             return CODES;
         }
 
-        /** With the first card highest, the order of the numbers is that of the form. */
         private int writeForm(short[] row) {
-            for (int column = 0; column < MOST_COLUMNS; column++) {
-                order[column] = columns[column] << 4 * (MOST_CARDS - sizes[column]);
-            }
-            sortOrder();
+            sortColumns();
             int size = 0;
-            // columns beyond the table's are empty and so stand ahead of all others
-            for (int i = MOST_COLUMNS - deck.columns; i < MOST_COLUMNS; i++) {
-                size = writeOrdered(order[i], row, size);
+            for (int i = 0; i < MOST_COLUMNS; i++) {
+                int column = inOrder(i);
+                // columns beyond the table's are empty ones here, but are not told
+                if (column < deck.columns) {
+                    row[size] = (short) sizes[column];
+                    size = writeColumn(column, row, size + 1);
+                }
             }
-            int low = Math.min(cells[0], cells[1]);
             if (cellCount == MOST_CELLS) {
-                row[size++] = (short) deck.codeOf(low);
+                row[size++] = (short) deck.codeOf(Math.min(cells[0], cells[1]));
             }
             if (cellCount > 0) {
-                row[size++] = (short) deck.codeOf(cells[0] + cells[1] - low);
+                row[size++] = (short) deck.codeOf(Math.max(cells[0], cells[1]));
             }
             return size;
         }
 
-        private int writeOrdered(long column, short[] row, int start) {
-            int size = start + 1;
-            for (int bits = SIZE_SHIFT - 4; bits >= 0; bits -= 4) {
-                int card = (int) (column >>> bits) & CARD_BITS;
-                if (card == 0) {
-                    break;
-                }
-                row[size++] = (short) deck.codeOf(card);
-            }
-            row[start] = (short) (size - start - 1);
-            return size;
-        }
-
-        private void sortOrder() {
-            for (int i = 1; i < MOST_COLUMNS; i++) {
-                long column = order[i];
-                int place = i;
-                while (place > 0 && order[place - 1] > column) {
+        /** With the first card of each column highest, the order of the numbers is the form's. */
+        private void sortColumns() {
+            for (int column = 0; column < MOST_COLUMNS; column++) {
+                long aligned = columns[column] << 4 * (MOST_CARDS - sizes[column]);
+                long named = aligned << NAME_BITS | column;
+                int place = column;
+                while (place > 0 && order[place - 1] > named) {
                     order[place] = order[place - 1];
                     place--;
                 }
-                order[place] = column;
+                order[place] = named;
             }
         }
 
-        private void orderAsTheyLie() {
-            for (int column = 0; column < MOST_COLUMNS; column++) {
-                order[column] = (long) sizes[column] << SIZE_SHIFT | columns[column];
-            }
-        }
-
-        /** Columns joined, the first lowest, with four bits of 0 between them: 15 places at most. */
-        private long joinOrder() {
-            long joined = 0;
-            int bits = 0;
-            for (int i = 0; i < MOST_COLUMNS; i++) {
-                joined |= (order[i] & (1L << SIZE_SHIFT) - 1) << bits;
-                bits += 4 * ((int) (order[i] >>> SIZE_SHIFT) + 1);
-            }
-            return joined;
-        }
-
-        private long packedColumns() {
-            orderAsTheyLie();
-            return joinOrder();
-        }
-
-        private int packedCells() {
-            return cells[0] | cells[1] << 4;
+        private int inOrder(int i) {
+            return (int) order[i] & NAME;
         }
 
         /**
-         * A number that stands have in common just if they are like. The cells' cards stand behind
-         * the columns, where there is room for them: a card in a cell is missing in the columns.
+         * A number that stands have in common just if they are like: the columns, the first lowest,
+         * each with four bits of 0 behind it, then the cells' cards. There is room for these, as a
+         * card in a cell is missing in the columns.
          */
         private long formKey() {
-            orderAsTheyLie();
-            sortOrder();
-            long key = joinOrder();
-            int bits = 4 * (sizes[0] + sizes[1] + sizes[2] + sizes[3] + MOST_COLUMNS);
-            int low = Math.min(cells[0], cells[1]);
-            int high = cells[0] + cells[1] - low;
-            return key | (long) (high | low << 4) << bits;
+            sortColumns();
+            long key = 0;
+            int bits = 0;
+            for (int i = 0; i < MOST_COLUMNS; i++) {
+                int column = inOrder(i);
+                key |= columns[column] << bits;
+                bits += 4 * (sizes[column] + 1);
+            }
+            long high = Math.max(cells[0], cells[1]);
+            long low = Math.min(cells[0], cells[1]);
+            return key | (low << 4 | high) << bits;
+        }
+
+        /** What the form does not tell of a stand: which column and which cell is which. */
+        private int arrangement() {
+            sortColumns();
+            int names = 0;
+            for (int i = 0; i < MOST_COLUMNS; i++) {
+                names |= inOrder(i) << NAME_BITS * i;
+            }
+            int turned = cells[0] < cells[1] ? 1 : 0;
+            return turned << CELLS_TURNED_SHIFT | names;
         }
 
         /** All cards are laid where this is called, so those that lie nowhere are in houses. */
-        private void unpack(long packedColumns, int packedCells) {
+        private void unpack(long formKey, int arrangement) {
             for (int suit = 0; suit < MOST_SUITS; suit++) {
                 houses[suit] = suit < deck.suits ? deck.ranks : 0;
             }
-            long rest = packedColumns;
-            for (int column = 0; column < MOST_COLUMNS; column++) {
+            long rest = formKey;
+            for (int i = 0; i < MOST_COLUMNS; i++) {
+                int column = arrangement >>> NAME_BITS * i & NAME;
                 int bits = 0;
-                while (bits < SIZE_SHIFT && (rest >>> bits & CARD_BITS) != 0) {
+                while (bits < COLUMN_BITS && (rest >>> bits & CARD_BITS) != 0) {
                     takeFromHouse((int) (rest >>> bits) & CARD_BITS);
                     bits += 4;
                 }
@@ -867,10 +849,11 @@ public final class PatienceDesk {
                 sizes[column] = bits / 4;
                 rest >>>= bits + 4;
             }
-            for (int i = 0; i < MOST_CELLS; i++) {
-                cells[i] = packedCells >>> 4 * i & CARD_BITS;
-                takeFromHouse(cells[i]);
-            }
+            int turned = arrangement >>> CELLS_TURNED_SHIFT & 1;
+            cells[turned] = (int) rest & CARD_BITS;
+            cells[1 - turned] = (int) (rest >>> 4) & CARD_BITS;
+            takeFromHouse(cells[0]);
+            takeFromHouse(cells[1]);
         }
 
         private void takeFromHouse(int card) {
@@ -884,8 +867,8 @@ public final class PatienceDesk {
     private static final class History {
         private static final int KEPT = 64;
 
-        private final long[] columns = new long[KEPT + 1];
-        private final int[] cells = new int[KEPT + 1];
+        private final long[] forms = new long[KEPT + 1];
+        private final int[] arrangements = new int[KEPT + 1];
         private int present;
         private int latest;
 
@@ -899,8 +882,8 @@ public final class PatienceDesk {
             if (present < KEPT) {
                 present++;
             } else {
-                System.arraycopy(columns, 1, columns, 0, KEPT);
-                System.arraycopy(cells, 1, cells, 0, KEPT);
+                System.arraycopy(forms, 1, forms, 0, KEPT);
+                System.arraycopy(arrangements, 1, arrangements, 0, KEPT);
             }
             latest = present;
             write(stand);
@@ -915,7 +898,7 @@ public final class PatienceDesk {
                 return false;
             }
             present--;
-            stand.unpack(columns[present], cells[present]);
+            stand.unpack(forms[present], arrangements[present]);
             return true;
         }
 
@@ -924,13 +907,40 @@ public final class PatienceDesk {
                 return false;
             }
             present++;
-            stand.unpack(columns[present], cells[present]);
+            stand.unpack(forms[present], arrangements[present]);
             return true;
         }
 
         private void write(Stand stand) {
-            columns[present] = stand.packedColumns();
-            cells[present] = stand.packedCells();
+            forms[present] = stand.formKey();
+            arrangements[present] = stand.arrangement();
+        }
+    }
+
+    /** From and to of each move in a byte, eight moves a long: rows are counted by elements. */
+    private static final class Plan {
+        private static final int IN_LONG = 8, MOVE_BITS = 255;
+
+        /** The forms on the way are met within the bound, so a plan is no longer than that. */
+        private final long[] moves = new long[MOST_BOUND / IN_LONG];
+        private int size;
+
+        private void write(int i, int move) {
+            int bits = 8 * (i % IN_LONG);
+            long others = moves[i / IN_LONG] & ~((long) MOVE_BITS << bits);
+            moves[i / IN_LONG] = others | (long) move << bits;
+        }
+
+        private int moveAt(int i) {
+            return (int) (moves[i / IN_LONG] >>> 8 * (i % IN_LONG)) & MOVE_BITS;
+        }
+
+        private int fromAt(int i) {
+            return moveAt(i) >> 3;
+        }
+
+        private int toAt(int i) {
+            return moveAt(i) & 7;
         }
     }
 
@@ -940,32 +950,27 @@ public final class PatienceDesk {
      * on; so the first row that is found to lead to the end is the plan.
      */
     private static final class Search {
-        private static final int TABLE_BITS = 13, TABLE = 1 << TABLE_BITS;
+        private static final int CHAIN_NAME_BITS = 10, CHAINS = 1 << CHAIN_NAME_BITS;
         private static final long SPREAD = 0x9E3779B97F4A7C15L;
 
+        /** Where what is told of a form stands in its long; 12 bits hold a number up to a bound. */
+        private static final int MOVE = 63, PARENT_SHIFT = 6, INDEX = 4095;
+        private static final int ARRANGEMENT_SHIFT = 18, ARRANGEMENT = 511, NEXT_SHIFT = 27;
+
         private final Stand work;
-        /** Keys of the forms met; 0 is a free place, as only the form of a done stand has key 0. */
-        private final long[] table = new long[TABLE];
-        private final long[] columns = new long[MOST_BOUND];
-        private final byte[] cells = new byte[MOST_BOUND];
-        private final short[] parents = new short[MOST_BOUND];
-        private final byte[] moves = new byte[MOST_BOUND];
+        private final long[] forms = new long[MOST_BOUND];
+        /** Of each form: by which move it was met, from which form, as which stand; its chain's next. */
+        private final long[] told = new long[MOST_BOUND];
+        /** Of the forms that share a chain, the latest: its index and 1, so 0 if there is none. */
+        private final short[] chains = new short[CHAINS];
         private int known;
         private int most;
         private boolean spent;
         private int lastParent;
-        private byte lastMove;
+        private int lastMove;
 
         private Search(Deck deck) {
             work = new Stand(deck);
-        }
-
-        private static int fromOf(int move) {
-            return move >> 3;
-        }
-
-        private static int toOf(int move) {
-            return move & 7;
         }
 
         private int fewestMoves(Stand start, int cellCount, int bound) {
@@ -993,17 +998,17 @@ public final class PatienceDesk {
         }
 
         private void restart(Stand start, int cellCount, int bound) {
-            Arrays.fill(table, 0L);
+            Arrays.fill(chains, (short) 0);
             known = 0;
             most = Math.min(bound, MOST_BOUND);
             spent = false;
             work.cellCount = cellCount;
-            work.unpack(start.packedColumns(), start.packedCells());
-            meet(0, (byte) 0);
+            work.unpack(start.formKey(), start.arrangement());
+            meet(0, 0);
         }
 
         private boolean leadsToEnd(int index) {
-            work.unpack(columns[index], cells[index] & 255);
+            work.unpack(forms[index], (int) (told[index] >>> ARRANGEMENT_SHIFT) & ARRANGEMENT);
             for (int from = 0; from < PLACES; from++) {
                 boolean hasCard = work.cardFrom(from) != 0;
                 for (int to = 0; hasCard && to < PLACES; to++) {
@@ -1017,7 +1022,7 @@ public final class PatienceDesk {
         }
 
         private boolean endsBy(int index, int from, int to) {
-            byte move = (byte) (from << 3 | to);
+            int move = from << 3 | to;
             int card = work.shift(from, to);
             boolean done = work.isDone();
             if (done) {
@@ -1030,46 +1035,43 @@ public final class PatienceDesk {
             return done;
         }
 
-        private void meet(int parent, byte move) {
-            long key = work.formKey();
-            int place = freePlaceFor(key);
-            if (place == NONE) {
+        private void meet(int parent, int move) {
+            long form = work.formKey();
+            int chain = (int) (form * SPREAD >>> 64 - CHAIN_NAME_BITS);
+            if (isMet(form, chain)) {
                 return;
             }
             if (known >= most) {
                 spent = true;
                 return;
             }
-            table[place] = key;
-            columns[known] = work.packedColumns();
-            cells[known] = (byte) work.packedCells();
-            parents[known] = (short) parent;
-            moves[known] = move;
+            forms[known] = form;
+            told[known] = (long) chains[chain] << NEXT_SHIFT
+                    | (long) work.arrangement() << ARRANGEMENT_SHIFT
+                    | parent << PARENT_SHIFT | move;
             known++;
+            chains[chain] = (short) known;
         }
 
-        /** NONE if the form was met; the table is never full, so there is always a free place. */
-        private int freePlaceFor(long key) {
-            int place = (int) (key * SPREAD >>> 64 - TABLE_BITS);
-            for (int tries = 0; tries < TABLE; tries++) {
-                if (table[place] == 0) {
-                    return place;
+        private boolean isMet(long form, int chain) {
+            int index = chains[chain] - 1;
+            for (int tries = 0; tries < known && index >= 0; tries++) {
+                if (forms[index] == form) {
+                    return true;
                 }
-                if (table[place] == key) {
-                    return NONE;
-                }
-                place = place + 1 & TABLE - 1;
+                index = ((int) (told[index] >>> NEXT_SHIFT) & INDEX) - 1;
             }
-            return NONE;
+            return false;
         }
 
-        private void writePlan(byte[] plan, int size) {
+        private void writePlan(Plan plan, int size) {
+            plan.size = size;
             int index = lastParent;
-            byte move = lastMove;
+            int move = lastMove;
             for (int i = size - 1; i >= 0; i--) {
-                plan[i] = move;
-                move = moves[index];
-                index = parents[index];
+                plan.write(i, move);
+                move = (int) told[index] & MOVE;
+                index = (int) (told[index] >>> PARENT_SHIFT) & INDEX;
             }
         }
     }

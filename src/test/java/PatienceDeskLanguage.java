@@ -1,11 +1,14 @@
 import java.io.IOException;
 import java.lang.management.ManagementFactory;
+import java.lang.reflect.Array;
 import java.lang.reflect.Field;
 import java.lang.reflect.Method;
 import java.lang.reflect.Modifier;
 import java.nio.file.Files;
 import java.nio.file.Path;
 import java.util.ArrayList;
+import java.util.Collections;
+import java.util.IdentityHashMap;
 import java.util.List;
 import java.util.Set;
 import java.util.TreeSet;
@@ -18,6 +21,7 @@ public final class PatienceDeskLanguage {
     private static final String FACE = "auto() begin(int,int,int,int,int) card(int,int) carry(int,int,int) cell(int) "
             + "count(int) forge(int,int,int) form(int) house(int) lay(int,int,int) lets(int,int) make(int) move(int,int) "
             + "needs(int) plan(int,int) put(int,int,int) redo() solve(int) status() undo() why()";
+    private static final int CALLS = 512, ROOM_OBJECTS = 600_000, ROOM_ELEMENTS = 7_300_000;
     private static int wrong = 0;
 
     private static void mustBe(boolean kept, String rule) {
@@ -27,7 +31,7 @@ public final class PatienceDeskLanguage {
         }
     }
 
-    public static void main(String[] args) throws IOException {
+    public static void main(String[] args) throws IOException, ReflectiveOperationException {
         face();
         for (Class<?> inner : PatienceDesk.class.getDeclaredClasses()) {
             inside(inner);
@@ -104,7 +108,7 @@ public final class PatienceDeskLanguage {
         while (calls.find()) {
             used.add(calls.group());
         }
-        List<String> listed = List.of("Arrays.fill", "Math.min", "Math.floorMod", "Integer.bitCount", "System.arraycopy");
+        List<String> listed = List.of("Arrays.fill", "Math.max", "Math.min", "Math.floorMod", "Integer.bitCount", "System.arraycopy");
         mustBe(listed.containsAll(used), "rule 4: the library, but " + used);
         Matcher imports = Pattern.compile("import ([\\w.*]+);").matcher(code);
         while (imports.find()) {
@@ -137,17 +141,48 @@ public final class PatienceDeskLanguage {
         return longest;
     }
 
-    /** All calls of a run share one room, so no call may make rows of its own again and again. */
-    private static void room() {
+    /** All calls of a run share one room, so rows are made with the object and no call makes any. */
+    private static void room() throws ReflectiveOperationException {
         com.sun.management.ThreadMXBean threads =
                 (com.sun.management.ThreadMXBean) ManagementFactory.getThreadMXBean();
-        PatienceDesk desk = new PatienceDesk();
-        dearCalls(desk, 2);
         long id = Thread.currentThread().getId();
+        dearCalls(new PatienceDesk(), 2);
+        threads.getThreadAllocatedBytes(id);
+        PatienceDesk desk = new PatienceDesk();
         long before = threads.getThreadAllocatedBytes(id);
         dearCalls(desk, 40);
         long bytes = threads.getThreadAllocatedBytes(id) - before;
-        mustBe(bytes < 20_000, "the room: 400 calls made " + bytes + " bytes");
+        mustBe(bytes < 1_000, "rule 12: a new object's first 480 calls made " + bytes + " bytes");
+        made(desk);
+    }
+
+    /** So small that as many objects as an object has calls would fit into one room. */
+    private static void made(PatienceDesk desk) throws ReflectiveOperationException {
+        Set<Object> objects = Collections.newSetFromMap(new IdentityHashMap<>());
+        int elements = elementsOf(desk, objects);
+        mustBe(objects.size() <= ROOM_OBJECTS / CALLS, "rule 12: an object makes " + objects.size() + " objects and arrays");
+        mustBe(elements <= ROOM_ELEMENTS / CALLS, "rule 12: an object makes " + elements + " fields and elements");
+    }
+
+    private static int elementsOf(Object owner, Set<Object> met) throws ReflectiveOperationException {
+        if (owner == null || !met.add(owner)) {
+            return 0;
+        }
+        int elements = 0;
+        if (owner.getClass().isArray()) {
+            elements = Array.getLength(owner);
+            for (int i = 0; owner instanceof Object[] parts && i < parts.length; i++) {
+                elements += elementsOf(parts[i], met);
+            }
+            return elements;
+        }
+        for (Field f : owner.getClass().getDeclaredFields()) {
+            if (!Modifier.isStatic(f.getModifiers())) {
+                f.setAccessible(true);
+                elements += 1 + (f.getType().isPrimitive() ? 0 : elementsOf(f.get(owner), met));
+            }
+        }
+        return elements;
     }
 
     private static void dearCalls(PatienceDesk desk, int times) {
@@ -159,6 +194,8 @@ public final class PatienceDeskLanguage {
             desk.put(i % 6, 3, 0);
             desk.put(i % 6, 4, 0);
             desk.forge(i % 6, 4, 100);
+            desk.forge(i % 6, 5, 1);
+            desk.plan(0, 0);
             desk.form(3);
             desk.count(6);
             desk.auto();
