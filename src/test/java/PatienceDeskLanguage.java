@@ -79,6 +79,9 @@ public final class PatienceDeskLanguage {
 
     private static void inside(Class<?> inner) {
         mustBe(Modifier.isStatic(inner.getModifiers()), "rule 2: static " + inner);
+        for (Method m : inner.getDeclaredMethods()) {
+            mustBe(!FACE.matches("(.* )?" + m.getName() + "\\(.*"), "rule 1: " + m.getName() + " in " + inner);
+        }
         members(inner);
     }
 
